@@ -846,7 +846,7 @@ public final class LampStrip {
         }
 
         /** A sum or difference is put behind only when its right term is whole, so that it waits for one. */
-        boolean readSum(int depth) {
+        private boolean readSum(int depth) {
             int waiting = NONE;
             if (!readFactor(depth)) {
                 return false;

@@ -7,8 +7,14 @@ final class Checks {
 
     private static int made = 0;
     private static int failed = 0;
+    private static String heading = "";
 
     private Checks() {
+    }
+
+    /** What stands ahead of each failure from now on. */
+    static void begin(String newHeading) {
+        heading = newHeading;
     }
 
     static void due(String what, long got, long want) {
@@ -51,7 +57,7 @@ final class Checks {
     static void fail(String what) {
         failed++;
         if (failed <= 50) {
-            System.out.println(what);
+            System.out.println(heading + what);
         }
     }
 
