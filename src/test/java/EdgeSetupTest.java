@@ -209,7 +209,8 @@ public final class EdgeSetupTest {
         Checks.load(x, START + "fill 00 000 0000 00000 " + Edges.times(300, "0") + "7;");
         due("zeros ahead of each number", x.pixel(0, 8), 7);
         for (String number : new String[] {"256", "999999", "1000000", "1000001", "10000000", "2147483648",
-            "4294967296", "4294967303", "18446744073709551616", "18446744073709551623", "340282366920938463463374607431768211463",
+            "4294967296", "4294967303", "18446744073709551616", "18446744073709551623",
+            "340282366920938463463374607431768211463",
             Edges.times(500, "9"), "1" + Edges.times(500, "0")}) {
             error(START + "level ^" + number + ";", Edges.RANGE);
             error(START + "level ^000" + number + ";", Edges.RANGE);
