@@ -552,7 +552,7 @@ public final class LampStrip {
 
         /** Whether the pixel shows a color and loads its feed with it. */
         private boolean isLamp(int index) {
-            return (kind[index] == GOOD || kind[index] == STUTTERING) && !isBypassed(index);
+            return (kind[index] == GOOD || kind[index] == STUTTERING) && !isIn(bypassed, index);
         }
 
         private int currentOf(int color) {
